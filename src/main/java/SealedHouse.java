@@ -68,6 +68,7 @@ public final class SealedHouse {
     private static final int ROW_LIST = 6;
     private static final int ROW_POST = 7;
 
+    private static final int PARTS = 4;
     private static final int SEAL_KEY = 0;
     private static final int SEAL_HEAD = 1;
     private static final int SEAL_BODY = 2;
@@ -84,9 +85,9 @@ public final class SealedHouse {
     private static final int DONE = 2;
 
     private final Terms terms = new Terms();
+    private final Knowledge attacker = new Knowledge(terms);
     private final Wires wires = new Wires();
     private final Ledger ledger = new Ledger();
-    private final Arrival arrival = new Arrival();
     private final Device[] devices = new Device[DEVICES];
     private final Store[] stores = new Store[DEVICES];
     private final int[] identities = new int[DEVICES];
@@ -99,7 +100,7 @@ public final class SealedHouse {
     public SealedHouse() {
         for (int d = 0; d < DEVICES; d++) {
             identities[d] = terms.secret(d, FOR_ELSE);
-            terms.give(terms.publicOf(identities[d]));
+            attacker.give(terms.publicOf(identities[d]));
             devices[d] = new Device();
             devices[d].identity = identities[d];
             stores[d] = new Store(identities[d]);
@@ -109,14 +110,9 @@ public final class SealedHouse {
     // ---- devices
 
     public int publish(int d) {
-        if (!isDevice(d)) {
-            return NONE;
-        }
-        if (isFull()) {
-            return FULL;
-        }
-        if (stores[d].down) {
-            return DOWN;
+        int refusal = refusal(isDevice(d), d);
+        if (refusal != 0) {
+            return refusal;
         }
         startWork(d);
         work.renewKeys(terms, d);
@@ -128,14 +124,9 @@ public final class SealedHouse {
     }
 
     public int begin(int s, int d) {
-        if (!areTwo(s, d)) {
-            return NONE;
-        }
-        if (isFull()) {
-            return FULL;
-        }
-        if (stores[s].down) {
-            return DOWN;
+        int refusal = refusal(areTwo(s, d), s);
+        if (refusal != 0) {
+            return refusal;
         }
         startWork(s);
         if (openSession(s, d) == null) {
@@ -145,17 +136,15 @@ public final class SealedHouse {
     }
 
     public int send(int s, int d) {
-        if (!areTwo(s, d)) {
-            return NONE;
-        }
-        if (isFull()) {
-            return FULL;
-        }
-        if (stores[s].down) {
-            return DOWN;
+        int refusal = refusal(areTwo(s, d), s);
+        if (refusal != 0) {
+            return refusal;
         }
         startWork(s);
-        Session way = firstSession(s, d);
+        Session way = work.firstSession(d);
+        if (way == null) {
+            way = openSession(s, d);
+        }
         if (way == null) {
             return CANNOT_BEGIN;
         }
@@ -165,18 +154,13 @@ public final class SealedHouse {
         if (!finish(s)) {
             return CRASHED;
         }
-        return wires.tell(terms, ledger.addSent(terms, secret, s, d, way));
+        return wires.tell(attacker, ledger.addSent(terms, secret, s, d, way));
     }
 
     public int list(int g, int mask) {
-        if (!isGroup(g) || mask < 0 || mask >= MASKS) {
-            return NONE;
-        }
-        if (isFull()) {
-            return FULL;
-        }
-        if (stores[g].down) {
-            return DOWN;
+        int refusal = refusal(isGroup(g) && mask >= 0 && mask < MASKS, g);
+        if (refusal != 0) {
+            return refusal;
         }
         if (!hasBit(mask, g) || (mask & devices[g].memberships[g].gone) != 0) {
             return NO_GOOD_LIST;
@@ -187,18 +171,13 @@ public final class SealedHouse {
         terms.startRow(ROW_LIST, g, own.version, mask, 0);
         int row = terms.endRow(NOTHING, NOTHING, NOTHING, NOTHING);
         wires.add(terms.signed(identities[g], row));
-        return finish(g) ? wires.tell(terms, NONE) : CRASHED;
+        return finish(g) ? wires.tell(attacker, NONE) : CRASHED;
     }
 
     public int post(int s, int g) {
-        if (!isDevice(s) || !isGroup(g)) {
-            return NONE;
-        }
-        if (isFull()) {
-            return FULL;
-        }
-        if (stores[s].down) {
-            return DOWN;
+        int refusal = refusal(isDevice(s) && isGroup(g), s);
+        if (refusal != 0) {
+            return refusal;
         }
         if (devices[s].memberships[g].version == 0) {
             return NO_GOOD_LIST;
@@ -212,7 +191,7 @@ public final class SealedHouse {
         if (!finish(s)) {
             return CRASHED;
         }
-        return wires.tell(terms, ledger.addPosted(terms, secret, s, g, own.mask));
+        return wires.tell(attacker, ledger.addPosted(terms, secret, s, g, own.mask));
     }
 
     public int deliver(int d, int w) {
@@ -258,7 +237,7 @@ public final class SealedHouse {
             return FULL;
         }
         int secret = terms.secret(ATTACKER, FOR_ELSE);
-        terms.give(secret);
+        attacker.give(secret);
         return keep(r, secret);
     }
 
@@ -348,7 +327,7 @@ public final class SealedHouse {
         }
         seenCount = stores[d].copyTerms(seen);
         for (int i = 0; i < seenCount; i++) {
-            terms.give(seen[i]);
+            attacker.give(seen[i]);
         }
         ledger.noteLook(d, terms.draws);
         return seenCount;
@@ -382,7 +361,7 @@ public final class SealedHouse {
         if (!ledger.has(l)) {
             return NONE;
         }
-        return terms.isKnown(ledger.secretOf(l)) ? 1 : 0;
+        return attacker.isKnown(ledger.secretOf(l)) ? 1 : 0;
     }
 
     // ---- what is told
@@ -461,7 +440,7 @@ public final class SealedHouse {
     public int leaked() {
         int leaks = 0;
         for (int l = 0; l < ledger.letters; l++) {
-            if (terms.isKnown(ledger.secretOf(l)) && ledger.isSheltered(terms, l)) {
+            if (attacker.isKnown(ledger.secretOf(l)) && ledger.isSheltered(terms, l)) {
                 leaks++;
             }
         }
@@ -494,6 +473,17 @@ public final class SealedHouse {
         return MAX_DRAWS - terms.draws < SPARE_DRAWS
                 || MAX_WIRES - wires.total < SPARE_WIRES
                 || !terms.hasRoom();
+    }
+
+    /** What refuses a call in which d makes something; 0 if nothing does. */
+    private int refusal(boolean named, int d) {
+        if (!named) {
+            return NONE;
+        }
+        if (isFull()) {
+            return FULL;
+        }
+        return stores[d].down ? DOWN : 0;
     }
 
     // ---- registers
@@ -577,7 +567,7 @@ public final class SealedHouse {
 
     private void announce(int d, int place, int term) {
         directory[d * PLACES + place] = term;
-        terms.give(term);
+        attacker.give(term);
     }
 
     private int keyRow(int kind, int d, int number, int secret) {
@@ -585,11 +575,7 @@ public final class SealedHouse {
         return terms.endRow(terms.publicOf(secret), NOTHING, NOTHING, NOTHING);
     }
 
-    /** The first session of the work of s with d, or one begun now; null if it can't begin. */
-    private Session firstSession(int s, int d) {
-        return work.sessionCount[d] > 0 ? work.sessions[d * MAX_SESSIONS] : openSession(s, d);
-    }
-
+    /** Begins a session in the work of s; null if it can't begin. */
     private Session openSession(int s, int d) {
         int p = announcedPrekey(d);
         if (p == NOTHING) {
@@ -634,8 +620,13 @@ public final class SealedHouse {
     private void handOut(int s, int g, Membership own) {
         int gift = own.giftRow(terms, g);
         for (int p = 0; p < DEVICES; p++) {
-            boolean due = p != s && hasBit(own.mask, p) && !hasBit(own.gave, p);
-            Session way = due ? firstSession(s, p) : null;
+            if (p == s || !hasBit(own.mask, p) || hasBit(own.gave, p)) {
+                continue;
+            }
+            Session way = work.firstSession(p);
+            if (way == null) {
+                way = openSession(s, p);
+            }
             if (way != null) {
                 way.turnToSend(terms, s);
                 wires.add(way.nextWire(terms, s, p, gift));
@@ -654,7 +645,20 @@ public final class SealedHouse {
             return FULL;
         }
         startWork(d);
-        int answer = terms.kindOf(term) == SEALED ? takeSealed(d, term) : takeSigned(d, term);
+        int answer = NO_FORM;
+        switch (formOf(term)) {
+            case ROW_SESSION:
+                answer = takeSealed(d, term);
+                break;
+            case ROW_LIST:
+                answer = takeList(d, term);
+                break;
+            case ROW_POST:
+                answer = takePost(d, term);
+                break;
+            default:
+                break;
+        }
         if (answer < 0) {
             return answer;
         }
@@ -662,16 +666,31 @@ public final class SealedHouse {
             return CRASHED;
         }
         if (answer == A_LETTER) {
-            ledger.noteTaken(terms, d, arrival);
+            ledger.noteTaken(terms, d);
         }
         return answer;
     }
 
+    /** The KIND of the GOOD ROW that tells how a term is taken; 0 if it has none of the forms. */
+    private int formOf(int term) {
+        int kind = terms.kindOf(term);
+        if (kind == SEALED) {
+            return terms.isGood(terms.partOf(term, SEAL_HEAD), ROW_SESSION) ? ROW_SESSION : 0;
+        }
+        if (kind != SIGNED) {
+            return 0;
+        }
+        int text = terms.partOf(term, SIGN_TEXT);
+        if (terms.isGood(text, ROW_LIST)) {
+            return ROW_LIST;
+        }
+        boolean isPost = terms.kindOf(text) == SEALED
+                && terms.isGood(terms.partOf(text, SEAL_HEAD), ROW_POST);
+        return isPost ? ROW_POST : 0;
+    }
+
     private int takeSealed(int d, int term) {
         int head = terms.partOf(term, SEAL_HEAD);
-        if (!terms.isGood(head, ROW_SESSION)) {
-            return NO_FORM;
-        }
         int from = terms.numberOf(head, 0);
         if (terms.numberOf(head, 1) != d || from == d) {
             return NOT_FOR_IT;
@@ -683,7 +702,11 @@ public final class SealedHouse {
         if (way == null) {
             return NO_SESSION;
         }
-        int key = way.keyFor(terms, head);
+        int index = terms.numberOf(head, 2);
+        int key = way.inbound.takeLeft(terms.partOf(head, 1), index);
+        if (key == NOTHING && way.follow(terms, head)) {
+            key = way.inbound.nextKey(terms, index);
+        }
         if (key == NOTHING) {
             return OUT_OF_REACH;
         }
@@ -697,7 +720,7 @@ public final class SealedHouse {
 
     private int takeBody(int from, int body, boolean oneTime) {
         if (terms.isGood(body, ROW_LETTER)) {
-            arrival.set(from, NONE, terms.partOf(body, 0), oneTime);
+            ledger.expect(from, NONE, terms.partOf(body, 0), oneTime);
             return A_LETTER;
         }
         if (terms.isGood(body, ROW_GIFT)) {
@@ -729,26 +752,14 @@ public final class SealedHouse {
         return made;
     }
 
-    private int takeSigned(int d, int term) {
-        int text = terms.partOf(term, SIGN_TEXT);
-        if (terms.kindOf(term) != SIGNED) {
-            return NO_FORM;
-        }
-        if (terms.isGood(text, ROW_LIST)) {
-            return takeList(d, terms.partOf(term, SIGN_BY), text);
-        }
-        boolean isPost = terms.kindOf(text) == SEALED
-                && terms.isGood(terms.partOf(text, SEAL_HEAD), ROW_POST);
-        return isPost ? takePost(d, terms.partOf(term, SIGN_BY), text) : NO_FORM;
-    }
-
-    private int takeList(int d, int signer, int row) {
+    private int takeList(int d, int term) {
+        int row = terms.partOf(term, SIGN_TEXT);
         int g = terms.numberOf(row, 0);
         int version = terms.numberOf(row, 1);
         int mask = terms.numberOf(row, 2);
         Membership own = work.memberships[g];
         boolean wrong = d == g
-                || signer != identities[g]
+                || terms.partOf(term, SIGN_BY) != identities[g]
                 || version <= own.version
                 || !hasBit(mask, g)
                 || !hasBit(mask, d)
@@ -760,7 +771,8 @@ public final class SealedHouse {
         return A_LIST;
     }
 
-    private int takePost(int d, int signer, int sealed) {
+    private int takePost(int d, int term) {
+        int sealed = terms.partOf(term, SIGN_TEXT);
         int head = terms.partOf(sealed, SEAL_HEAD);
         int g = terms.numberOf(head, 0);
         int from = terms.numberOf(head, 1);
@@ -772,10 +784,14 @@ public final class SealedHouse {
         if (!hasBit(own.mask, from) || given == null) {
             return NO_GROUP_KEY;
         }
-        if (terms.publicOf(signer) != given.inbound.theirs) {
+        if (terms.publicOf(terms.partOf(term, SIGN_BY)) != given.inbound.theirs) {
             return WRONG_KEY;
         }
-        int key = given.inbound.keyAt(terms, terms.numberOf(head, 3));
+        int index = terms.numberOf(head, 3);
+        int key = given.inbound.takeLeft(given.inbound.theirs, index);
+        if (key == NOTHING) {
+            key = given.inbound.nextKey(terms, index);
+        }
         if (key == NOTHING) {
             return OUT_OF_REACH;
         }
@@ -786,12 +802,12 @@ public final class SealedHouse {
         if (!terms.isGood(body, ROW_LETTER)) {
             return WRONG_BODY;
         }
-        arrival.set(from, g, terms.partOf(body, 0), given.oneTime);
+        ledger.expect(from, g, terms.partOf(body, 0), given.oneTime);
         return A_LETTER;
     }
 
     /**
-     * All terms ever made, each in one row of cells, and which of them the attacker can derive.
+     * All terms ever made, each in one row of cells, so that terms made alike have one number.
      * Term 0 is NOTHING.
      */
     private static final class Terms {
@@ -801,30 +817,19 @@ public final class SealedHouse {
         private static final int PART = 6;
         // what tells two terms apart lies ahead of this cell
         private static final int NEXT_IN_BUCKET = 10;
-        private static final int FIRST_USE = 11;
-        private static final int KNOWN = 12;
-        private static final int NEXT_USE = 13;
-        private static final int WIDTH = 17;
-        private static final int PARTS = 4;
+        private static final int WIDTH = 11;
         private static final int BUCKETS = 4_096;
         private static final int FIRST_ROOM = 1_024;
         // no call makes as many terms, and 512 calls don't make as many as the last room has
         private static final int CALL_ROOM = 256;
-        private static final int LAST_ROOM = 131_072;
+        private static final int LAST_ROOM = 65_536;
 
         private int[] cells = new int[FIRST_ROOM * WIDTH];
-        private int[] learned = new int[FIRST_ROOM];
         private final int[] buckets = new int[BUCKETS];
         private final int[] draft = new int[NEXT_IN_BUCKET];
         private int room = FIRST_ROOM;
         private int size = 1;
-        private int learnedCount;
-        private int spreadCount;
         private int draws;
-
-        Terms() {
-            cells[KNOWN] = 1;
-        }
 
         /** Makes room for one call's terms; false if there is none, far behind the 512th call. */
         boolean hasRoom() {
@@ -836,29 +841,26 @@ public final class SealedHouse {
             }
             room *= 2;
             cells = Arrays.copyOf(cells, room * WIDTH);
-            learned = Arrays.copyOf(learned, room);
             return true;
         }
 
-        private boolean isTerm(int t) {
-            return t > NOTHING && t < size;
-        }
-
         int kindOf(int t) {
-            return isTerm(t) ? cells[t * WIDTH + KIND] : 0;
+            return t > NOTHING && t < size ? cells[t * WIDTH + KIND] : 0;
         }
 
         /** n of a MIX, the KIND of a ROW, which draw it was of a SECRET. */
         int markOf(int t) {
-            return isTerm(t) ? cells[t * WIDTH + MARK] : 0;
+            return t > NOTHING && t < size ? cells[t * WIDTH + MARK] : 0;
         }
 
         int numberOf(int t, int i) {
-            return isTerm(t) && i >= 0 && i < PARTS ? cells[t * WIDTH + NUMBER + i] : 0;
+            boolean there = t > NOTHING && t < size && i >= 0 && i < PARTS;
+            return there ? cells[t * WIDTH + NUMBER + i] : 0;
         }
 
         int partOf(int t, int i) {
-            return isTerm(t) && i >= 0 && i < PARTS ? cells[t * WIDTH + PART + i] : NOTHING;
+            boolean there = t > NOTHING && t < size && i >= 0 && i < PARTS;
+            return there ? cells[t * WIDTH + PART + i] : NOTHING;
         }
 
         int drawnBy(int secret) {
@@ -874,11 +876,11 @@ public final class SealedHouse {
             draws++;
             draft[NUMBER] = drawer;
             draft[NUMBER + 1] = purpose;
-            int made = append(slotOfDraft());
-            // its PUBLIC lies behind it, so that publicOf needs no search
+            int made = intern();
+            // its PUBLIC lies behind it, so that none has to be searched for
             startDraft(PUBLIC, 0);
             draft[PART] = made;
-            append(slotOfDraft());
+            intern();
             return made;
         }
 
@@ -889,13 +891,16 @@ public final class SealedHouse {
         /** SHARED of a secret and the one that a PUBLIC is of; its PUBLICS help to derive it. */
         int shared(int secret, int pub) {
             int other = partOf(pub, 0);
+            if (secret == NOTHING || other == NOTHING) {
+                return NOTHING;
+            }
             int a = Math.min(secret, other);
             int b = Math.max(secret, other);
             startDraft(SHARED, 0);
             draft[PART] = a;
             draft[PART + 1] = b;
-            draft[PART + 2] = publicOf(a);
-            draft[PART + 3] = publicOf(b);
+            draft[PART + 2] = a + 1;
+            draft[PART + 3] = b + 1;
             return intern();
         }
 
@@ -951,7 +956,7 @@ public final class SealedHouse {
         }
 
         private int changed(int row, int cell, int v) {
-            if (!isTerm(row) || cell < 0 || cell >= draft.length) {
+            if (row <= NOTHING || row >= size || cell < 0 || cell >= draft.length) {
                 return NOTHING;
             }
             System.arraycopy(cells, row * WIDTH, draft, 0, draft.length);
@@ -965,122 +970,32 @@ public final class SealedHouse {
             draft[MARK] = mark;
         }
 
-        private int slotOfDraft() {
+        /** The term that is as the draft says: the one there is, or another one. */
+        private int intern() {
             int hash = 0;
             for (int i = 0; i < draft.length; i++) {
                 hash = hash * 31 + draft[i];
             }
-            return (hash ^ hash >>> 12 ^ hash >>> 24) & BUCKETS - 1;
-        }
-
-        private int intern() {
-            int slot = slotOfDraft();
+            int slot = (hash ^ hash >>> 12 ^ hash >>> 24) & BUCKETS - 1;
             int t = buckets[slot];
-            for (int i = 0; i < size && t != NOTHING && !isDraft(t); i++) {
+            for (int tried = 0; tried < size && t != NOTHING; tried++) {
+                int alike = 0;
+                while (alike < draft.length && cells[t * WIDTH + alike] == draft[alike]) {
+                    alike++;
+                }
+                if (alike == draft.length) {
+                    return t;
+                }
                 t = cells[t * WIDTH + NEXT_IN_BUCKET];
             }
-            if (t == NOTHING) {
-                t = append(slot);
-                if (canBeMade(t)) {
-                    learn(t);
-                }
-            }
-            return t;
-        }
-
-        private boolean isDraft(int t) {
-            int at = t * WIDTH;
-            for (int i = 0; i < draft.length; i++) {
-                if (cells[at + i] != draft[i]) {
-                    return false;
-                }
-            }
-            return true;
-        }
-
-        private int append(int slot) {
-            int t = size;
-            if (t >= room) {
+            if (size >= room) {
                 return NOTHING;
             }
+            System.arraycopy(draft, 0, cells, size * WIDTH, draft.length);
+            cells[size * WIDTH + NEXT_IN_BUCKET] = buckets[slot];
+            buckets[slot] = size;
             size++;
-            int at = t * WIDTH;
-            System.arraycopy(draft, 0, cells, at, draft.length);
-            cells[at + NEXT_IN_BUCKET] = buckets[slot];
-            buckets[slot] = t;
-            for (int i = 0; i < PARTS; i++) {
-                int used = draft[PART + i];
-                if (used != NOTHING) {
-                    cells[at + NEXT_USE + i] = cells[used * WIDTH + FIRST_USE];
-                    cells[used * WIDTH + FIRST_USE] = t * PARTS + i;
-                }
-            }
-            return t;
-        }
-
-        boolean isKnown(int t) {
-            return t == NOTHING || isTerm(t) && cells[t * WIDTH + KNOWN] != 0;
-        }
-
-        /** The attacker gets a term, and all that can be derived with it. */
-        void give(int t) {
-            learn(t);
-            for (; spreadCount < learnedCount && spreadCount < size; spreadCount++) {
-                openUp(learned[spreadCount]);
-                tryUses(learned[spreadCount]);
-            }
-        }
-
-        private void learn(int t) {
-            if (!isKnown(t) && isTerm(t) && learnedCount < learned.length) {
-                cells[t * WIDTH + KNOWN] = 1;
-                learned[learnedCount] = t;
-                learnedCount++;
-            }
-        }
-
-        private void openUp(int t) {
-            int kind = kindOf(t);
-            if (kind == ROW) {
-                for (int i = 0; i < PARTS; i++) {
-                    learn(partOf(t, i));
-                }
-            } else if (kind == SIGNED) {
-                learn(partOf(t, SIGN_TEXT));
-            } else if (kind == SEALED) {
-                learn(partOf(t, SEAL_HEAD));
-                if (isKnown(partOf(t, SEAL_KEY))) {
-                    learn(partOf(t, SEAL_BODY));
-                }
-            }
-        }
-
-        private void tryUses(int t) {
-            int use = isTerm(t) ? cells[t * WIDTH + FIRST_USE] : 0;
-            for (int i = 0; i < size * PARTS && use != 0; i++) {
-                int user = use / PARTS;
-                if (!isKnown(user)) {
-                    if (canBeMade(user)) {
-                        learn(user);
-                    }
-                } else if (kindOf(user) == SEALED && partOf(user, SEAL_KEY) == t) {
-                    learn(partOf(user, SEAL_BODY));
-                }
-                use = cells[user * WIDTH + NEXT_USE + use % PARTS];
-            }
-        }
-
-        private boolean canBeMade(int t) {
-            int a = partOf(t, 0);
-            int b = partOf(t, 1);
-            int c = partOf(t, 2);
-            int d = partOf(t, 3);
-            int kind = kindOf(t);
-            if (kind == SHARED) {
-                return isKnown(a) && isKnown(d) || isKnown(b) && isKnown(c);
-            }
-            return kind != 0 && kind != SECRET
-                    && isKnown(a) && isKnown(b) && isKnown(c) && isKnown(d);
+            return size - 1;
         }
 
         boolean isGood(int t, int kind) {
@@ -1145,11 +1060,129 @@ public final class SealedHouse {
         }
     }
 
+    /**
+     * Which terms are DERIVED. A term made later never tells more of those made before it, so it is
+     * enough to look at new terms when something is given.
+     */
+    private static final class Knowledge {
+        private static final int KNOWN = 0;
+        private static final int FIRST_USE = 1;
+        private static final int NEXT_USE = 2;
+        private static final int WIDTH = NEXT_USE + PARTS;
+
+        private final Terms terms;
+        private int[] cells;
+        private int[] learned;
+        private int learnedCount;
+        private int spreadCount;
+        private int linkedCount = 1;
+
+        Knowledge(Terms allTerms) {
+            terms = allTerms;
+            cells = new int[allTerms.room * WIDTH];
+            learned = new int[allTerms.room];
+        }
+
+        boolean isKnown(int t) {
+            return t == NOTHING || t > NOTHING && t < linkedCount && cells[t * WIDTH + KNOWN] != 0;
+        }
+
+        /** The attacker gets a term, and all that can be derived with it. */
+        void give(int t) {
+            linkNewTerms();
+            learn(t);
+            for (; spreadCount < learnedCount && spreadCount < linkedCount; spreadCount++) {
+                openUp(learned[spreadCount]);
+                tryUses(learned[spreadCount]);
+            }
+        }
+
+        private void linkNewTerms() {
+            if (learned.length < terms.room) {
+                cells = Arrays.copyOf(cells, terms.room * WIDTH);
+                learned = Arrays.copyOf(learned, terms.room);
+            }
+            for (; linkedCount < terms.size; linkedCount++) {
+                for (int i = 0; i < PARTS; i++) {
+                    link(linkedCount, i);
+                }
+                if (canBeMade(linkedCount)) {
+                    learn(linkedCount);
+                }
+            }
+        }
+
+        private void link(int user, int i) {
+            int used = terms.partOf(user, i);
+            if (used != NOTHING) {
+                cells[user * WIDTH + NEXT_USE + i] = cells[used * WIDTH + FIRST_USE];
+                cells[used * WIDTH + FIRST_USE] = user * PARTS + i;
+            }
+        }
+
+        private void learn(int t) {
+            if (t <= NOTHING || t >= terms.size || learnedCount >= learned.length) {
+                return;
+            }
+            if (cells[t * WIDTH + KNOWN] == 0) {
+                cells[t * WIDTH + KNOWN] = 1;
+                learned[learnedCount] = t;
+                learnedCount++;
+            }
+        }
+
+        private void openUp(int t) {
+            int kind = terms.kindOf(t);
+            if (kind == ROW) {
+                for (int i = 0; i < PARTS; i++) {
+                    learn(terms.partOf(t, i));
+                }
+            } else if (kind == SIGNED) {
+                learn(terms.partOf(t, SIGN_TEXT));
+            } else if (kind == SEALED) {
+                learn(terms.partOf(t, SEAL_HEAD));
+                if (isKnown(terms.partOf(t, SEAL_KEY))) {
+                    learn(terms.partOf(t, SEAL_BODY));
+                }
+            }
+        }
+
+        private void tryUses(int t) {
+            int use = cells[t * WIDTH + FIRST_USE];
+            for (int i = 0; i < linkedCount * PARTS && use != 0; i++) {
+                int user = use / PARTS;
+                if (!isKnown(user)) {
+                    if (canBeMade(user)) {
+                        learn(user);
+                    }
+                } else if (terms.kindOf(user) == SEALED && terms.partOf(user, SEAL_KEY) == t) {
+                    learn(terms.partOf(user, SEAL_BODY));
+                }
+                use = cells[user * WIDTH + NEXT_USE + use % PARTS];
+            }
+        }
+
+        private boolean canBeMade(int t) {
+            boolean first = isKnown(terms.partOf(t, 0));
+            boolean second = isKnown(terms.partOf(t, 1));
+            boolean third = isKnown(terms.partOf(t, 2));
+            boolean fourth = isKnown(terms.partOf(t, 3));
+            int kind = terms.kindOf(t);
+            if (kind == SHARED) {
+                return first && fourth || second && third;
+            }
+            return kind != SECRET && first && second && third && fourth;
+        }
+    }
+
     /** A chain that keys are received on, with the keys that were left behind on it. */
     private static final class Inbound {
-        private final int[] leftPublic = new int[MAX_LEFT];
-        private final int[] leftIndex = new int[MAX_LEFT];
-        private final int[] leftKey = new int[MAX_LEFT];
+        private static final int LEFT_PUBLIC = 0;
+        private static final int LEFT_INDEX = 1;
+        private static final int LEFT_KEY = 2;
+        private static final int WIDTH = 3;
+
+        private final int[] left = new int[MAX_LEFT * WIDTH];
         private int leftCount;
         private int theirs;
         private int chain;
@@ -1160,9 +1193,7 @@ public final class SealedHouse {
             chain = other.chain;
             next = other.next;
             leftCount = other.leftCount;
-            System.arraycopy(other.leftPublic, 0, leftPublic, 0, leftCount);
-            System.arraycopy(other.leftIndex, 0, leftIndex, 0, leftCount);
-            System.arraycopy(other.leftKey, 0, leftKey, 0, leftCount);
+            System.arraycopy(other.left, 0, left, 0, leftCount * WIDTH);
         }
 
         void start(int newTheirs, int newChain, int newNext) {
@@ -1172,11 +1203,19 @@ public final class SealedHouse {
             leftCount = 0;
         }
 
+        int leftPublic(int i) {
+            return i >= 0 && i < leftCount ? left[i * WIDTH + LEFT_PUBLIC] : NOTHING;
+        }
+
+        int leftKey(int i) {
+            return i >= 0 && i < leftCount ? left[i * WIDTH + LEFT_KEY] : NOTHING;
+        }
+
         /** Takes out the oldest key left for this PUBLIC and index; NOTHING without one. */
         int takeLeft(int pub, int index) {
             for (int i = 0; i < leftCount; i++) {
-                if (leftPublic[i] == pub && leftIndex[i] == index) {
-                    int key = leftKey[i];
+                if (leftPublic(i) == pub && left[i * WIDTH + LEFT_INDEX] == index) {
+                    int key = leftKey(i);
                     removeLeft(i);
                     return key;
                 }
@@ -1184,13 +1223,9 @@ public final class SealedHouse {
             return NOTHING;
         }
 
-        private void removeLeft(int at) {
+        private void removeLeft(int i) {
             leftCount--;
-            for (int i = at; i < leftCount; i++) {
-                leftPublic[i] = leftPublic[i + 1];
-                leftIndex[i] = leftIndex[i + 1];
-                leftKey[i] = leftKey[i + 1];
-            }
+            System.arraycopy(left, (i + 1) * WIDTH, left, i * WIDTH, (leftCount - i) * WIDTH);
         }
 
         /** False, with nothing done, if the index is too far ahead. */
@@ -1202,9 +1237,9 @@ public final class SealedHouse {
                 if (leftCount == MAX_LEFT) {
                     removeLeft(0);
                 }
-                leftPublic[leftCount] = theirs;
-                leftIndex[leftCount] = next;
-                leftKey[leftCount] = terms.mix(6, chain, NOTHING);
+                left[leftCount * WIDTH + LEFT_PUBLIC] = theirs;
+                left[leftCount * WIDTH + LEFT_INDEX] = next;
+                left[leftCount * WIDTH + LEFT_KEY] = terms.mix(6, chain, NOTHING);
                 leftCount++;
                 chain = terms.mix(7, chain, NOTHING);
                 next++;
@@ -1221,11 +1256,6 @@ public final class SealedHouse {
             chain = terms.mix(7, chain, NOTHING);
             next++;
             return key;
-        }
-
-        int keyAt(Terms terms, int index) {
-            int left = takeLeft(theirs, index);
-            return left != NOTHING ? left : nextKey(terms, index);
         }
     }
 
@@ -1303,26 +1333,19 @@ public final class SealedHouse {
             return terms.sealed(key, head, body);
         }
 
-        /** The key that a head's numbers ask for; NOTHING if it is out of reach. */
-        int keyFor(Terms terms, int head) {
+        /** Goes over to the chain of a head's key; false if too many would be left behind. */
+        boolean follow(Terms terms, int head) {
             int pub = terms.partOf(head, 1);
-            int index = terms.numberOf(head, 2);
-            int left = inbound.takeLeft(pub, index);
-            if (left != NOTHING) {
-                return left;
+            int end = terms.numberOf(head, 3);
+            if (pub == inbound.theirs && inbound.chain != NOTHING) {
+                return true;
             }
-            if (pub != inbound.theirs || inbound.chain == NOTHING) {
-                int end = terms.numberOf(head, 3);
-                boolean skips = inbound.chain != NOTHING && end > inbound.next;
-                if (skips && !inbound.skipTo(terms, end)) {
-                    return NOTHING;
-                }
-                turnToReceive(terms, pub);
+            boolean skips = inbound.chain != NOTHING && end > inbound.next;
+            if (skips && !inbound.skipTo(terms, end)) {
+                return false;
             }
-            if (index < inbound.next || !inbound.skipTo(terms, index)) {
-                return NOTHING;
-            }
-            return inbound.nextKey(terms, index);
+            turnToReceive(terms, pub);
+            return true;
         }
 
         private void turnToReceive(Terms terms, int pub) {
@@ -1345,7 +1368,7 @@ public final class SealedHouse {
                 store.put(bornePrekey, borneOnce);
             }
             for (int i = 0; i < inbound.leftCount; i++) {
-                store.put(inbound.leftKey[i], inbound.leftPublic[i]);
+                store.put(inbound.leftKey(i), inbound.leftPublic(i));
             }
         }
 
@@ -1386,7 +1409,7 @@ public final class SealedHouse {
         void writeEntries(Store store) {
             store.put(inbound.chain, inbound.theirs);
             for (int i = 0; i < inbound.leftCount; i++) {
-                store.put(inbound.leftKey[i], NOTHING);
+                store.put(inbound.leftKey(i), NOTHING);
             }
         }
     }
@@ -1674,6 +1697,10 @@ public final class SealedHouse {
             return NOTHING;
         }
 
+        Session firstSession(int p) {
+            return sessionCount[p] > 0 ? sessions[p * MAX_SESSIONS] : null;
+        }
+
         Session findSession(int p, int base) {
             for (int k = 0; k < sessionCount[p]; k++) {
                 if (sessions[p * MAX_SESSIONS + k].base == base) {
@@ -1836,28 +1863,15 @@ public final class SealedHouse {
         }
 
         /** Tells the call's wires, the last of which may bear a letter; answers that one. */
-        int tell(Terms terms, int letter) {
+        int tell(Knowledge attacker, int letter) {
             for (; waiting > 0; waiting--) {
-                terms.give(termOf[total]);
+                attacker.give(termOf[total]);
                 total++;
             }
-            letterOf[total - 1] = letter;
+            if (total > 0) {
+                letterOf[total - 1] = letter;
+            }
             return total - 1;
-        }
-    }
-
-    /** What came to a device in the call that runs. */
-    private static final class Arrival {
-        private int from;
-        private int group;
-        private int term;
-        private boolean oneTime;
-
-        void set(int newFrom, int newGroup, int newTerm, boolean withOneTime) {
-            from = newFrom;
-            group = newGroup;
-            term = newTerm;
-            oneTime = withOneTime;
         }
     }
 
@@ -1883,6 +1897,10 @@ public final class SealedHouse {
         private final int[] takenLetter = new int[DEVICES];
         private final int[] takenFrom = new int[DEVICES];
         private final int[] takenGroup = new int[DEVICES];
+        private int cameFrom;
+        private int cameByGroup;
+        private int cameTerm;
+        private boolean cameByOneTime;
         private int letters;
         private int lookedInto;
         private int forgedCount;
@@ -1947,10 +1965,18 @@ public final class SealedHouse {
             lastLook[d] = draws;
         }
 
-        void noteTaken(Terms terms, int d, Arrival came) {
-            int l = letterWith(terms, came.term);
-            boolean sentSo = isSentSo(l, d, came);
-            if (!hasBit(lookedInto, d) && !hasBit(lookedInto, came.from)) {
+        /** What came to a device in the call that runs; it counts if the call is told. */
+        void expect(int from, int byGroup, int term, boolean byOneTime) {
+            cameFrom = from;
+            cameByGroup = byGroup;
+            cameTerm = term;
+            cameByOneTime = byOneTime;
+        }
+
+        void noteTaken(Terms terms, int d) {
+            int l = letterWith(terms, cameTerm);
+            boolean sentSo = isSentSo(l, d);
+            if (!hasBit(lookedInto, d) && !hasBit(lookedInto, cameFrom)) {
                 if (!sentSo) {
                     forgedCount++;
                 }
@@ -1961,20 +1987,20 @@ public final class SealedHouse {
             if (has(l)) {
                 cells[l * WIDTH + OF_TAKERS] |= 1 << d;
             }
-            if (sentSo && came.oneTime && (of(l, OF_MASK) & lookedInto) == 0) {
+            if (sentSo && cameByOneTime && (of(l, OF_MASK) & lookedInto) == 0) {
                 cells[l * WIDTH + OF_SAFE] |= 1 << d;
             }
             takenCount[d]++;
             takenLetter[d] = l;
-            takenFrom[d] = came.from;
-            takenGroup[d] = came.group;
+            takenFrom[d] = cameFrom;
+            takenGroup[d] = cameByGroup;
         }
 
-        private boolean isSentSo(int l, int d, Arrival came) {
-            if (!has(l) || of(l, OF_SENDER) != came.from || of(l, OF_GROUP) != came.group) {
+        private boolean isSentSo(int l, int d) {
+            if (!has(l) || of(l, OF_SENDER) != cameFrom || of(l, OF_GROUP) != cameByGroup) {
                 return false;
             }
-            return came.group != NONE || of(l, OF_RECEIVER) == d;
+            return cameByGroup != NONE || of(l, OF_RECEIVER) == d;
         }
 
         int lastTaken(int d, int what) {
