@@ -95,6 +95,8 @@ public final class AttackerTest {
         due("no more", x.take(1, 3, -1), NONE);
         x.look(1);
         due("the latest look", x.take(2, 3, 1), 1);
+        x.look(3);
+        due("and no longer one before it", x.take(1, 3, 1), NONE);
         due("no such kind", x.take(1, 4, 0), NONE);
         due("no such kind", x.take(1, -1, 0), NONE);
         for (int r : NO_REGISTER) {
@@ -469,8 +471,8 @@ public final class AttackerTest {
         }
         x.look(1);
         x.take(5, 3, 0);
-        int[][] good = {{1, 63}, {5, 2}, {1, 1}, {5, 67}, {5, 3}, {5, 3}};
-        int[] answers = {3, -16, -16, -10, 3, -16};
+        int[][] good = {{1, 63}, {5, 2}, {1, 1}, {5, 67}, {5, 0}, {5, 3}, {5, 3}};
+        int[] answers = {3, -16, -16, -10, -16, 3, -16};
         for (int i = 0; i < good.length; i++) {
             row(x, 2, 6, 1, good[i][0], good[i][1], 0);
             x.make(3, 12, 5, 2);

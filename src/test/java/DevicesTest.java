@@ -24,6 +24,7 @@ public final class DevicesTest {
         deliverSkips();
         deliverSkipsTheOldChain();
         deliverBases();
+        deliverBaseAgain();
         deliverThirdSession();
         deliverLists();
         deliverPosts();
@@ -457,6 +458,23 @@ public final class DevicesTest {
         due("the first wire of all does not come again", x.deliver(0, 0), -12);
         x.publish(0);
         due("nor this one, of a session that is there", x.deliver(0, 7), -13);
+    }
+
+    private static void deliverBaseAgain() {
+        SealedHouse x = published(2);
+        for (int i = 1; i < 5; i++) {
+            x.plant(1, i, -1);
+        }
+        for (int w = 0; w < 3; w++) {
+            x.begin(0, 1);
+            x.send(0, 1);
+            due("deliver", x.deliver(1, w), 1);
+        }
+        due("BASES", x.device(1, 3), 3);
+        due("its session went, but its BASE is there", x.deliver(1, 0), -12);
+        due("send", x.send(0, 1), 3);
+        due("deliver", x.deliver(1, 3), 1);
+        due("no BASE for a session that is there", x.device(1, 3), 3);
     }
 
     private static void deliverThirdSession() {

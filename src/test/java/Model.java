@@ -1356,9 +1356,9 @@ final class Model {
         return n;
     }
 
-    /** How many letters one of the four clauses of leaked shelters, derived or not. */
-    int shelteredLetters() {
-        return (int) letters.stream().filter(this::sheltered).count();
+    /** Whether one of the four clauses of leaked is so of a letter now, derived or not. */
+    boolean sheltered(int l) {
+        return sheltered(letters.get(l));
     }
 
     private boolean sheltered(Letter l) {

@@ -48,7 +48,8 @@ public final class ModelTest {
         for (String due : List.of("arrives 1", "arrives 2", "arrives 3", "arrives -10",
                 "arrives -11", "arrives -12", "arrives -13", "arrives -14", "arrives -15",
                 "arrives -16", "arrives -17", "arrives -3", "arrives -4", "unseal 1", "derived 1",
-                "derived 0", "sheltered", "post -4", "post -6", "send -5", "list -6")) {
+                "derived 0", "a sheltered letter", "no sheltered letter", "a sheltered post",
+                "no sheltered post", "post -4", "post -6", "send -5", "list -6")) {
             if (!SEEN.containsKey(due) && RUNS >= 240) {
                 System.out.println("no run got to: " + due);
                 missing++;
@@ -99,10 +100,9 @@ public final class ModelTest {
 
     private void tally() {
         for (int l = 0; l < model.letters.size(); l++) {
+            String kind = model.letters.get(l).to == Model.NONE ? "post" : "letter";
             saw("derived " + model.derived(l));
-        }
-        if (model.shelteredLetters() > 0) {
-            saw("sheltered");
+            saw((model.sheltered(l) ? "a sheltered " : "no sheltered ") + kind);
         }
         if (model.doubled() > 0) {
             saw("doubled");

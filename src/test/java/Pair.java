@@ -1,3 +1,5 @@
+import java.lang.reflect.Field;
+import java.lang.reflect.Method;
 import java.util.ArrayList;
 import java.util.List;
 
@@ -143,6 +145,34 @@ final class Pair {
         both(house.leaked(), model.leaked(), "leaked");
     }
 
+    /**
+     * leaked() can't be other than 0 while keys are kept as the document says, so that its clauses
+     * are looked at inside the program, for each letter.
+     */
+    int shelteredLetters() {
+        int sheltered = 0;
+        try {
+            Object ledger = inside("ledger");
+            Object terms = inside("terms");
+            Method clauses = ledger.getClass()
+                    .getDeclaredMethod("isSheltered", terms.getClass(), int.class);
+            clauses.setAccessible(true);
+            for (int l = 0; l < model.letters.size(); l++) {
+                boolean got = (boolean) clauses.invoke(ledger, terms, l);
+                sheltered += both(got ? 1 : 0, model.sheltered(l) ? 1 : 0, "a clause of leaked", l);
+            }
+        } catch (ReflectiveOperationException e) {
+            throw new IllegalStateException(e);
+        }
+        return sheltered;
+    }
+
+    private Object inside(String name) throws ReflectiveOperationException {
+        Field field = SealedHouse.class.getDeclaredField(name);
+        field.setAccessible(true);
+        return field.get(house);
+    }
+
     /** Everything that can be asked; asking changes nothing, so it may be asked at any time. */
     void everything() {
         int before = calls.size();
@@ -186,5 +216,6 @@ final class Pair {
             count(what);
         }
         totals();
+        shelteredLetters();
     }
 }

@@ -208,7 +208,8 @@ public final class ToldTest {
 
     /**
      * A letter to device 1 in the name of device 2, which has been looked into: it begins a session
-     * without a one-time key. Register 3 has the body; registers 5 to 13 are used.
+     * without a one-time key, and says how many went on the chain before, though there was none.
+     * Register 3 has the body; registers 5 to 13 are used.
      */
     private static int sendAsTwo(SealedHouse x) {
         x.look(2);
@@ -229,6 +230,7 @@ public final class ToldTest {
         x.alter(11, 6, 4, 3);
         x.alter(11, 11, 0, 2);
         x.alter(11, 11, 1, 1);
+        x.alter(11, 11, 3, 9);
         x.make(12, 10, 8, -1);
         x.swap(11, 11, 0, 12);
         x.swap(11, 11, 1, 12);
@@ -252,30 +254,34 @@ public final class ToldTest {
         due("a letter that 2 never sent", sendAsTwo(x), 1);
         Check.all("taken", Check.answers(x.taken(1, 0), x.taken(1, 1), x.taken(1, 2), x.taken(1, 3)),
                 NONE, 2, NONE, 2);
+        due("nothing was left of the chain before", x.session(1, 2, 0, 3), 0);
         due("2 had been looked into", x.forged(), 0);
         due("no double", x.doubled(), 0);
         due("and no replay", x.inject(1, 13), -13);
     }
 
     private static void doubledByOneLookedInto() {
-        SealedHouse x = published(3);
-        x.list(0, 7);
+        SealedHouse x = published(4);
+        x.list(0, 15);
         x.deliver(1, 0);
         x.deliver(2, 0);
-        due("post", x.post(0, 0), 3);
+        x.deliver(3, 0);
+        due("post", x.post(0, 0), 4);
         due("gift", x.deliver(2, 2), 2);
         due("look", x.look(2), 12);
         x.take(0, 3, 10);
         x.make(1, 6, 0, -1);
-        x.take(2, 0, 3);
+        x.take(2, 0, 4);
         x.part(2, 2, 5);
         due("the post is open", x.unseal(3, 2, 1), 1);
         due("derived", x.derived(0), 1);
         due("its letter comes from 2", sendAsTwo(x), 1);
         Check.all("taken", Check.answers(x.taken(1, 0), x.taken(1, 1), x.taken(1, 2)), 0, 2, NONE);
+        due("gift", x.deliver(3, 3), 2);
+        due("another one takes it", x.deliver(3, 4), 1);
         Check.all("none yet", Check.answers(x.forged(), x.doubled()), 0, 0);
         due("gift", x.deliver(1, 1), 2);
-        due("and from 0", x.deliver(1, 3), 1);
+        due("and from 0", x.deliver(1, 4), 1);
         Check.all("taken", Check.answers(x.taken(1, 0), x.taken(1, 1), x.taken(1, 2)), 0, 0, 0);
         Check.all("0 and 1 had not been looked into", Check.answers(x.forged(), x.doubled()), 0, 1);
         SealedHouse y = published(3);
