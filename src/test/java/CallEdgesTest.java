@@ -38,6 +38,7 @@ public final class CallEdgesTest {
         group();
         groupKeysOfItself();
         count();
+        forgedIsNoneOfTheTrueOnes();
         forged();
         doubled();
         leaked();
@@ -618,6 +619,38 @@ public final class CallEdgesTest {
     }
 
     // ---- totals
+
+    /** "that s had not sent d, or posted to that group": of true letters none counts */
+    private static void forgedIsNoneOfTheTrueOnes() {
+        SealedHouse x = new SealedHouse();
+        for (int d = 0; d < 6; d++) {
+            x.publish(d);
+        }
+        for (int s = 0; s < 6; s++) {
+            for (int d = 0; d < 6; d++) {
+                if (s != d) {
+                    Check.due("taken", x.deliver(d, x.send(s, d)), 1);
+                }
+            }
+        }
+        for (int g = 0; g < 4; g++) {
+            int s = (g + 3) % 6;
+            int list = x.list(g, 63);
+            for (int d = 0; d < 6; d++) {
+                if (d != g) {
+                    Check.due("a list", x.deliver(d, list), 3);
+                }
+            }
+            int post = x.post(s, g);
+            for (int d = 0; d < 6; d++) {
+                if (d != s) {
+                    Check.due("a gift", x.deliver(d, post - 5 + (d < s ? d : d - 1)), 2);
+                    Check.due("a post", x.deliver(d, post), 1);
+                }
+            }
+        }
+        Check.all("none forged, none twice", Check.answers(x.forged(), x.doubled()), 0, 0);
+    }
 
     /** "neither having been looked into until then" and "(also what is no letter's SECRET)" */
     private static void forged() {

@@ -17,6 +17,7 @@ public final class GroupEdgesTest {
         goneAddsUp();
         staleIfAnyGo();
         whatWasGivenByThemGoes();
+        whoeverGoes();
         listToTheOwner();
         listSignedByAnother();
         listOfAnOldVersion();
@@ -35,6 +36,8 @@ public final class GroupEdgesTest {
         postFromOutsideTheMask();
         postWithoutAKey();
         postOfTheOlderKey();
+        keysOfTheLastDevice();
+        aKeyComesNew();
         postSignedByAnother();
         postSkipsFive();
         postLeavesEight();
@@ -184,6 +187,25 @@ public final class GroupEdgesTest {
         t.refused("a post of 1", x -> x.deliver(3, 4), -17);
         t.due("a post of 2", x -> x.deliver(3, 9), 1);
         t.end();
+    }
+
+    private static void whoeverGoes() {
+        int[] leaving = {0, 1, 3, 5};
+        for (int p : leaving) {
+            Twins t = Twins.published(6);
+            t.due("list", x -> x.list(2, 63), 0);
+            t.due("list", x -> x.deliver(p, 0), 3);
+            t.due("list", x -> x.deliver(4, 0), 3);
+            t.due("post", x -> x.post(p, 2), 6);
+            t.due("gift", x -> x.deliver(4, p > 4 ? 5 : 4), 2);
+            t.due("keys", x -> x.group(4, 2, 10 + p), 1);
+            t.due("list", x -> x.list(2, 63 & ~(1 << p)), 7);
+            t.due("list", x -> x.deliver(4, 7), 3);
+            t.due("none", x -> x.group(4, 2, 10 + p), 0);
+            groupIs(t, 4, 2, 2, 63 & ~(1 << p), 1 << p, 0, 0, 0, 1);
+            t.refused("a post of it", x -> x.deliver(4, 6), -17);
+            t.end();
+        }
     }
 
     /** "(-16) if d is the group's owner" */
@@ -531,6 +553,53 @@ public final class GroupEdgesTest {
         t.refused("the oldest key went", x -> x.deliver(1, 4), -17);
         t.refused("this one is there", x -> x.deliver(1, 8), -13);
         t.due("of the third generation", x -> x.deliver(1, 12), 1);
+        t.end();
+    }
+
+    private static void keysOfTheLastDevice() {
+        Twins t = Twins.published(6);
+        t.due("list", x -> x.list(3, 63), 0);
+        t.due("list", x -> x.deliver(5, 0), 3);
+        t.due("post", x -> x.post(5, 3), 6);
+        t.due("post", x -> x.post(5, 3), 7);
+        t.due("0 goes", x -> x.list(3, 62), 8);
+        t.due("list", x -> x.deliver(5, 8), 3);
+        t.due("post", x -> x.post(5, 3), 13);
+        t.due("post", x -> x.post(5, 3), 14);
+        t.due("1 goes", x -> x.list(3, 60), 15);
+        t.due("list", x -> x.deliver(5, 15), 3);
+        t.due("post", x -> x.post(5, 3), 19);
+        t.due("list", x -> x.deliver(4, 15), 3);
+        t.due("gift", x -> x.deliver(4, 5), 2);
+        t.due("gift", x -> x.deliver(4, 12), 2);
+        t.due("of the second key", x -> x.deliver(4, 14), 1);
+        int[] due = {2, 2, 2, 1};
+        for (int i = 0; i < due.length; i++) {
+            int what = 15 + 10 * i;
+            t.due("what " + what, x -> x.group(4, 3, what), due[i]);
+        }
+        t.refused("of a third key", x -> x.deliver(4, 19), -17);
+        t.due("of the first key", x -> x.deliver(4, 7), 1);
+        t.end();
+    }
+
+    private static void aKeyComesNew() {
+        Twins t = Twins.published(6);
+        t.due("list", x -> x.list(0, 63), 0);
+        t.due("list", x -> x.deliver(1, 0), 3);
+        int[] posts = new int[4];
+        for (int i = 0; i < 4; i++) {
+            int at = i;
+            t.run(x -> {
+                posts[at] = x.post(0, 0);
+                x.post(0, 0);
+                Check.due("gift", x.deliver(1, posts[at] - 5 + at), 2);
+                Check.all("NEXT, LEFT", Check.answers(x.group(1, 0, 30), x.group(1, 0, 40)), 0, 0);
+                Check.due("one ahead", x.deliver(1, posts[at] + 1), 1);
+                Check.all("NEXT, LEFT", Check.answers(x.group(1, 0, 30), x.group(1, 0, 40)), 2, 1);
+                Check.due("one goes", x.list(0, (1 << (5 - at)) - 1), posts[at] + 2);
+            });
+        }
         t.end();
     }
 

@@ -95,6 +95,9 @@ public final class ModelTest {
         if (!pair.wrong) {
             pair.everything();
         }
+        if (!pair.wrong) {
+            pair.withoutRefusedCalls();
+        }
         tally();
     }
 

@@ -8,7 +8,15 @@ final class Pair {
     final SealedHouse house = new SealedHouse();
     final Model model = new Model();
     final List<String> calls = new ArrayList<>();
+    private final List<Made> made = new ArrayList<>();
     boolean wrong;
+
+    /** A call, and what was due. */
+    private record Made(String name, int[] args, int want) {
+        boolean isRefused() {
+            return want < 0 && want != SealedHouse.CRASHED;
+        }
+    }
 
     private int both(int got, int want, String name, int... args) {
         StringBuilder b = new StringBuilder(name).append('(');
@@ -16,6 +24,7 @@ final class Pair {
             b.append(i == 0 ? "" : ", ").append(args[i]);
         }
         calls.add(b.append(") = ").append(got).toString());
+        made.add(new Made(name, args, want));
         if (got != want && !wrong) {
             wrong = true;
             System.out.println("the model says " + want + " at the end of:");
@@ -179,7 +188,41 @@ final class Pair {
         askEverything();
         if (!wrong) {
             calls.subList(before, calls.size()).clear();
+            made.subList(before, made.size()).clear();
         }
+    }
+
+    /**
+     * "What is refused changes nothing": a new object that is spared all calls that were refused
+     * answers all others alike, and has come to the same in the end.
+     */
+    void withoutRefusedCalls() {
+        SealedHouse spared = new SealedHouse();
+        try {
+            for (Made call : made) {
+                if (!call.isRefused()) {
+                    int got = invoke(spared, call);
+                    wrong |= got != call.want;
+                }
+            }
+        } catch (ReflectiveOperationException e) {
+            throw new IllegalStateException(e);
+        }
+        wrong |= !Ask.everything(house, 0).equals(Ask.everything(spared, 0));
+        if (wrong) {
+            System.out.println("a refused call changed something in:");
+            calls.forEach(System.out::println);
+        }
+    }
+
+    private static int invoke(SealedHouse x, Made call) throws ReflectiveOperationException {
+        Class<?>[] types = new Class<?>[call.args.length];
+        Object[] args = new Object[call.args.length];
+        for (int i = 0; i < args.length; i++) {
+            types[i] = int.class;
+            args[i] = call.args[i];
+        }
+        return (int) SealedHouse.class.getMethod(call.name, types).invoke(x, args);
     }
 
     private void askEverything() {

@@ -8,6 +8,8 @@ public final class SessionEdgesTest {
     public static void main(String[] args) {
         twoSessionsByBegin();
         twoSessionsByTaking();
+        leftKeysGoWithTheirSession();
+        aSessionComesNew();
         oneThatComesIsTheFirst();
         oneThatTakesIsTheFirst();
         beforeBecomesN();
@@ -100,6 +102,47 @@ public final class SessionEdgesTest {
         t.refused("the last one went", x -> x.deliver(1, 1), -12);
         t.due("the second one is there", x -> x.deliver(1, 3), 1);
         t.due("the first one is there", x -> x.deliver(1, 5), 1);
+        t.end();
+    }
+
+    private static void leftKeysGoWithTheirSession() {
+        Twins t = Twins.published(2);
+        for (int w = 0; w < 4; w++) {
+            t.due("send", x -> x.send(0, 1), w);
+        }
+        t.due("three are left", x -> x.deliver(1, 3), 1);
+        for (int w = 4; w < 6; w++) {
+            int wire = w;
+            t.run(x -> x.begin(0, 1));
+            t.due("send", x -> x.send(0, 1), w);
+            t.due("deliver", x -> x.deliver(1, wire), 1);
+            sessionIs(t, 1, 0, 0, 0, 1, 0, 0, 0, 1);
+        }
+        t.due("none are left", x -> x.session(1, 0, 1, 3), 0);
+        t.refused("their session went", x -> x.deliver(1, 0), -12);
+        t.end();
+    }
+
+    /** "ROOT is c, MINE the PREKEY, THEIRS, SEND, RECEIVE NOTHING, N, BEFORE, NEXT 0 .." */
+    private static void aSessionComesNew() {
+        Twins t = Twins.published(2);
+        t.due("send", x -> x.send(1, 0), 0);
+        t.due("send", x -> x.send(1, 0), 1);
+        t.due("deliver", x -> x.deliver(0, 0), 1);
+        t.due("answer", x -> x.send(0, 1), 2);
+        t.due("deliver", x -> x.deliver(1, 2), 1);
+        t.due("send", x -> x.send(1, 0), 3);
+        sessionIs(t, 1, 0, 1, 2, 1, 0, 0, 1, 1);
+        t.due("another one", x -> x.begin(1, 0), 2);
+        t.due("send", x -> x.send(1, 0), 4);
+        sessionIs(t, 1, 0, 1, 0, 0, 0, 1, 1, 0);
+        for (int w = 5; w < 7; w++) {
+            int wire = w;
+            t.run(x -> x.begin(0, 1));
+            t.due("send", x -> x.send(0, 1), w);
+            t.due("one comes, the last one goes", x -> x.deliver(1, wire), 1);
+            sessionIs(t, 1, 0, 0, 0, 1, 0, 0, 0, 1);
+        }
         t.end();
     }
 
@@ -430,6 +473,8 @@ public final class SessionEdgesTest {
         t.end();
         Twins u = turned(7);
         u.refused("BEFORE six above NEXT", x -> x.deliver(1, 8), -13);
+        u.refused("that comes ahead of N", x -> x.deliver(1, 9), -13);
+        u.refused("that comes ahead of N", x -> x.deliver(1, 14), -13);
         u.due("one more of the chain before", x -> x.deliver(1, 1), 1);
         u.due("BEFORE five above NEXT", x -> x.deliver(1, 8), 1);
         sessionIs(u, 1, 0, 1, 0, 1, 5);
