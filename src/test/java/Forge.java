@@ -89,12 +89,22 @@ final class Forge {
 
     /** The key at an index of the chain. */
     static void key(SealedHouse x, int index) {
-        int from = CHAIN;
+        keyOf(x, CHAIN, index);
+    }
+
+    static void keyOf(SealedHouse x, int chain, int index) {
+        int from = chain;
         for (int i = 0; i < index; i++) {
             x.make(KEY, 7, from, NOTHING);
             from = KEY;
         }
         x.make(KEY, 6, from, NOTHING);
+    }
+
+    /** Register r gets what register q has. */
+    static void copy(SealedHouse x, int r, int q) {
+        x.seal(r, q, q, q);
+        x.part(r, r, 4);
     }
 
     /** ROW 3 with BASE and KEY, and with PREKEY if it bears. */

@@ -719,12 +719,7 @@ public final class SessionEdgesTest {
     /** A gift from device 0 to device 1, at an index of the session's chain in register 0. */
     private static void give(Twins t, int index, int generation, int giftIndex) {
         t.run(x -> {
-            int from = 0;
-            for (int i = 0; i < index; i++) {
-                x.make(Forge.KEY, 7, from, -1);
-                from = Forge.KEY;
-            }
-            x.make(Forge.KEY, 6, from, -1);
+            Forge.keyOf(x, 0, index);
             Forge.head(x, 0, 1, index, 0);
             x.draw(Forge.CHAIN);
             x.draw(Forge.SIGNER);
@@ -740,8 +735,7 @@ public final class SessionEdgesTest {
         t.run(x -> Forge.begin(x, 0, 1, 0));
         t.run(x -> Forge.firstLetter(x, 0, 1, false));
         t.due("a session", x -> x.inject(1, Forge.MADE), 1);
-        t.run(x -> x.seal(0, Forge.CHAIN, Forge.CHAIN, Forge.CHAIN));
-        t.run(x -> x.part(0, 0, 4));
+        t.run(x -> Forge.copy(x, 0, Forge.CHAIN));
         return t;
     }
 

@@ -18,6 +18,7 @@ public final class StoreEdgesTest {
         callsThatDoNot();
         blocksOfEight();
         writesOneAfterTheOther();
+        aStoreThatIsFull();
         cutsFromZeroToTwoHundred();
         notMoreThanK();
         theLatestCounts();
@@ -279,6 +280,84 @@ public final class StoreEdgesTest {
         Cut cut = new Cut(0, StoreEdgesTest::mailed, x -> x.publish(0));
         cut.hasWrites(28, 33);
         cut.hasTerms(28, 36, 44, 52, 60, 61, 61, 53, 45, 37, 33);
+    }
+
+    /** All that a device can have: it takes the attacker more than 512 calls to bring it there. */
+    private static void aStoreThatIsFull() {
+        SealedHouse x = published(1);
+        for (int g = 0; g < 4; g++) {
+            Check.due("list", x.list(g, 63), g);
+            Check.due("list", g == 0 ? 3 : x.deliver(0, g), 3);
+        }
+        for (int p = 1; p < 6; p++) {
+            boolean once = p == 3;
+            if (p == 4) {
+                x.publish(0);
+            }
+            Forge.begin(x, p, 0, once ? 1 : 0);
+            leaveKeys(x, p, once);
+            Check.due("an answer", x.send(0, p) >= 0 ? 1 : 0, 1);
+            Forge.beginWith(x, 0, once ? 2 : 0);
+            leaveKeys(x, p, once);
+            giveKeys(x, p);
+        }
+        for (int g = 0; g < 4; g++) {
+            Check.due("post", x.post(0, g) >= 0 ? 1 : 0, 1);
+        }
+        int entries = 15 + 10 * (6 + 8) + 4 * (1 + 10 * 9);
+        int terms = 15 + 10 * (6 + 16) + 4 * (2 + 10 * 10);
+        Check.all("keys, BASES, entries, terms", Check.answers(x.device(0, 2), x.device(0, 3),
+                x.device(0, 4), x.device(0, 5)), 4, 4, entries, terms);
+        int blocks = 65;
+        cutBehind(x, 0, blocks, y -> y.list(0, 63));
+        Check.all("both halves are full", Check.answers(x.device(0, 4), x.device(0, 5), x.look(0),
+                x.take(0, 3, 2 * terms - 1), x.take(0, 3, 2 * terms)),
+                entries, 2 * terms, 2 * terms, 1, NONE);
+        x.up(0);
+        cutBehind(x, 0, 2 * blocks, y -> y.list(0, 63));
+        Check.all("the last block has seven LEFT keys", Check.answers(x.device(0, 4),
+                x.device(0, 5)), entries, terms + 7);
+        x.up(0);
+        Check.due("crash", x.crash(0, 2 * blocks + 1), 1);
+        Check.due("it has not more", x.list(0, 63) >= 0 ? 1 : 0, 1);
+        Check.due("terms", x.device(0, 5), terms);
+    }
+
+    /** Device 0 takes indexes 5 and 9 of a session that was begun as p; register 0 has its chain. */
+    private static void leaveKeys(SealedHouse x, int p, boolean once) {
+        x.draw(1);
+        Forge.turn(x, 1);
+        Forge.copy(x, 0, Forge.CHAIN);
+        for (int index : new int[] {5, 9}) {
+            Forge.key(x, index);
+            Forge.head(x, p, 0, index, 0);
+            Forge.bears(x, once);
+            Forge.letter(x);
+            Forge.seal(x);
+            Check.due("a letter", x.inject(0, Forge.MADE), 1);
+        }
+        Check.due("LEFT", x.session(0, p, 0, 3), 8);
+    }
+
+    /** Two keys of p for each group, and posts at indexes 5 and 9 of each. */
+    private static void giveKeys(SealedHouse x, int p) {
+        for (int i = 0; i < 8; i++) {
+            int g = i / 2;
+            int generation = i % 2 + 1;
+            Forge.keyOf(x, 0, 10 + i);
+            Forge.head(x, p, 0, 10 + i, 0);
+            x.draw(Forge.CHAIN);
+            x.draw(Forge.SIGNER);
+            Forge.gift(x, g, generation, 0);
+            Forge.seal(x);
+            Check.due("a gift", x.inject(0, Forge.MADE), 2);
+            for (int index : new int[] {5, 9}) {
+                Forge.key(x, index);
+                Forge.post(x, g, p, generation, index);
+                Check.due("a post", x.inject(0, Forge.MADE), 1);
+            }
+            Check.due("LEFT", x.group(0, g, 40 + p), 8);
+        }
     }
 
     // ---- cuts
