@@ -40,7 +40,9 @@ public final class CallEdgesTest {
         count();
         forgedIsNoneOfTheTrueOnes();
         forged();
+        forgedToOneLookedInto();
         doubled();
+        doubledToOneLookedInto();
         leaked();
         Check.end();
     }
@@ -666,6 +668,63 @@ public final class CallEdgesTest {
         t.end();
     }
 
+    /** Begins as device 0 with what a look into device 1 gave; MADE has the first letter. */
+    private static void asIfFromZero(SealedHouse x) {
+        Forge.identity(x, 1);
+        Forge.announced(x, Forge.PREKEY, 1, 0);
+        boolean found = false;
+        for (int i = 0; !found && x.take(5, 3, i) == 1; i++) {
+            found = x.make(6, 10, 5, -1) == 1 && x.same(6, Forge.PREKEY) == 1;
+        }
+        x.draw(7);
+        x.make(Forge.BASE, 10, 7, -1);
+        x.take(8, 2, 0);
+        x.make(9, 11, 5, 8);
+        x.make(8, 11, Forge.IDENTITY, Forge.BASE);
+        x.make(9, 0, 9, 8);
+        x.make(8, 11, 5, Forge.BASE);
+        x.make(9, 1, 9, 8);
+        x.make(Forge.ROOT, 3, 9, -1);
+        Forge.firstLetter(x, 0, 1, false);
+    }
+
+    private static void forgedToOneLookedInto() {
+        Twins t = Twins.published(2);
+        t.run(CallEdgesTest::asIfFromZero);
+        t.due("as from 0", x -> x.inject(1, Forge.MADE), 1);
+        t.due("no letter's SECRET", x -> x.taken(1, 0), NONE);
+        t.due("from 0", x -> x.taken(1, 1), 0);
+        t.due("but 1 was looked into", x -> x.forged(), 0);
+        t.end();
+    }
+
+    private static void doubledToOneLookedInto() {
+        Twins t = Twins.published(2);
+        t.due("send", x -> x.send(0, 1), 0);
+        t.due("send", x -> x.send(0, 1), 1);
+        t.due("deliver", x -> x.deliver(1, 0), 1);
+        t.due("look", x -> x.look(1), 10);
+        t.run(x -> {
+            // RECEIVE is the last of what it has
+            x.take(0, 3, 9);
+            x.make(0, 6, 0, -1);
+            x.take(1, 0, 1);
+            Check.due("unseal", x.unseal(2, 1, 0), 1);
+            x.part(2, 2, 0);
+        });
+        t.due("deliver", x -> x.deliver(1, 1), 1);
+        t.run(x -> {
+            asIfFromZero(x);
+            x.swap(Forge.BODY, Forge.BODY, 0, 2);
+            Forge.seal(x);
+        });
+        t.due("once more", x -> x.inject(1, Forge.MADE), 1);
+        t.due("letter 1", x -> x.taken(1, 0), 1);
+        t.due("from 0", x -> x.taken(1, 1), 0);
+        t.due("but 1 was looked into", x -> x.doubled(), 0);
+        t.end();
+    }
+
     /** "that it had taken before" */
     private static void doubled() {
         Twins t = Twins.published(4);
@@ -691,6 +750,9 @@ public final class CallEdgesTest {
         t.due("list", x -> x.deliver(3, 0), 3);
         t.due("takes it for the first time", x -> x.deliver(3, 4), 1);
         t.due("as before", x -> x.doubled(), 1);
+        t.run(x -> x.look(0));
+        t.run(x -> x.look(1));
+        t.due("looks behind it change nothing", x -> x.doubled(), 1);
         t.end();
     }
 

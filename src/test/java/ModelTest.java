@@ -49,7 +49,8 @@ public final class ModelTest {
                 "arrives -11", "arrives -12", "arrives -13", "arrives -14", "arrives -15",
                 "arrives -16", "arrives -17", "arrives -3", "arrives -4", "unseal 1", "derived 1",
                 "derived 0", "a sheltered letter", "no sheltered letter", "a sheltered post",
-                "no sheltered post", "post -4", "post -6", "send -5", "list -6")) {
+                "no sheltered post", "post -4", "post -6", "send -5", "list -6", "turns 1",
+                "turns -13", "begun to 1", "begun to 2")) {
             if (!SEEN.containsKey(due) && RUNS >= 240) {
                 System.out.println("no run got to: " + due);
                 missing++;
@@ -242,7 +243,17 @@ public final class ModelTest {
     private void attack() {
         int d = member();
         int p = other(d);
-        switch (random.nextInt(16)) {
+        switch (random.nextInt(20)) {
+            case 16:
+            case 17:
+                turnAs(d, p);
+                break;
+            case 18:
+                beginTo(d, p);
+                break;
+            case 19:
+                postTo(d, p, random.nextInt(4));
+                break;
             case 0:
                 pair.look(d);
                 break;
@@ -401,6 +412,105 @@ public final class ModelTest {
         arrived(pair.inject(p, 26));
         if (random.nextBoolean()) {
             arrived(pair.inject(p, 26));
+        }
+    }
+
+    /** Another KEY, maybe one of before, in a session of d with p; a look into d gave the rest. */
+    private void turnAs(int d, int p) {
+        List<Model.Sess> with = model.devs[d].state.sessions.get(p);
+        if (with.isEmpty() || pair.look(d) < 0) {
+            return;
+        }
+        Model.Sess x = with.get(random.nextInt(with.size()));
+        int own = 17 + random.nextInt(2);
+        boolean known = takeSeen(20, x.root) && takeSeen(21, x.mine) && takeSeen(22, x.base)
+                && (pair.about(own, 0) == 1 || pair.draw(own) == 1);
+        int n = random.nextInt(7);
+        if (!known || !rowIn(24, 3, p, d, n, random.nextInt(x.next + 8))
+                || !bodyIn29(random.nextInt(4))) {
+            return;
+        }
+        pair.make(23, 10, own, -1);
+        pair.make(25, 11, 21, 23);
+        pair.make(25, 5, 20, 25);
+        for (int i = 0; i < n; i++) {
+            pair.make(25, 7, 25, -1);
+        }
+        pair.make(25, 6, 25, -1);
+        pair.swap(24, 24, 0, 22);
+        pair.swap(24, 24, 1, 23);
+        pair.seal(26, 25, 24, 29);
+        int answer = pair.inject(d, 26);
+        arrived(answer);
+        saw("turns " + answer);
+    }
+
+    /** A session with d begun in the name of p, by the keys that a look into d gave. */
+    private void beginTo(int d, int p) {
+        Model.Pre pre = random.nextBoolean() ? model.devs[d].state.now : model.devs[d].state.past;
+        if (pre == null || pair.look(d) < 0 || !takeSeen(20, model.ids[d])
+                || !takeSeen(21, pre.secret) || pair.draw(23) != 1) {
+            return;
+        }
+        List<Model.Once> keys = model.devs[d].state.once;
+        boolean once = !keys.isEmpty() && random.nextBoolean()
+                && takeSeen(22, keys.get(random.nextInt(keys.size())).secret());
+        if (!rowIn(24, 3, p, d, 0, random.nextInt(3)) || !bodyIn29(random.nextInt(4))) {
+            return;
+        }
+        pair.make(30, 10, 23, -1);
+        pair.take(25, 2, p);
+        pair.make(25, 11, 21, 25);
+        pair.make(26, 11, 20, 30);
+        pair.make(25, 0, 25, 26);
+        pair.make(26, 11, 21, 30);
+        pair.make(25, 1, 25, 26);
+        if (once) {
+            pair.make(26, 11, 22, 30);
+        }
+        pair.make(25, once ? 2 : 3, 25, once ? 26 : -1);
+        pair.make(26, 11, 21, 30);
+        pair.make(25, 5, 25, 26);
+        pair.make(25, 6, 25, -1);
+        pair.swap(24, 24, 0, 30);
+        pair.swap(24, 24, 1, 30);
+        pair.make(21, 10, 21, -1);
+        pair.swap(24, 24, 2, 21);
+        if (once) {
+            pair.make(22, 10, 22, -1);
+            pair.swap(24, 24, 3, 22);
+        }
+        pair.seal(26, 25, 24, 29);
+        int answer = pair.inject(d, 26);
+        arrived(answer);
+        saw("begun to " + answer);
+        arrived(pair.inject(d, 26));
+    }
+
+    /** A post to d by the chain that p gave it, signed by p's SIGNER if a look gives that, too. */
+    private void postTo(int d, int p, int g) {
+        List<Model.Gift> given = model.devs[d].state.groups.get(g).given.get(p);
+        if (given.isEmpty() || pair.look(d) < 0) {
+            return;
+        }
+        Model.Gift key = given.get(random.nextInt(given.size()));
+        int ahead = random.nextInt(7);
+        if (!takeSeen(20, key.chain) || !bodyIn29(g)
+                || !rowIn(24, 7, g, p, key.generation, key.next + ahead)) {
+            return;
+        }
+        for (int i = 0; i < ahead; i++) {
+            pair.make(20, 7, 20, -1);
+        }
+        pair.make(20, 6, 20, -1);
+        pair.seal(26, 20, 24, 29);
+        Model.T signer = model.devs[p].state.groups.get(g).signer;
+        boolean signs = pair.look(p) >= 0 && takeSeen(21, signer);
+        if (signs || pair.draw(21) == 1) {
+            pair.make(26, 12, 21, 26);
+            int answer = pair.inject(d, 26);
+            arrived(answer);
+            saw("posted to " + answer);
         }
     }
 
