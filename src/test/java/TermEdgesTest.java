@@ -553,6 +553,16 @@ public final class TermEdgesTest {
         Check.due("from neither", y.derived(1), 0);
         y.look(0);
         Check.due("MINE of 0, and PUBLIC of the one that 1 drew", y.derived(1), 1);
+        for (int s = 0; s < 6; s++) {
+            for (int d = 0; d < 6; d++) {
+                if (s != d) {
+                    SealedHouse z = published(6);
+                    z.send(s, d);
+                    z.look(d);
+                    Check.due("from " + s + " to " + d, z.derived(0), 1);
+                }
+            }
+        }
     }
 
     /** "SECRETS drawn by the attacker" */
