@@ -20,6 +20,8 @@ public final class ReadmeTest {
             "(?:(int )?(\\w+) = )?house\\.(\\w+)\\(([^()]*)\\); +// (-?\\d+|[A-Z]+)(?:$|[:;] .*)");
     private static final Pattern ANSWER = Pattern.compile("\\| `([A-Z]+)` \\((-\\d+)\\) \\|.*");
 
+    private static final Pattern NAMED = Pattern.compile("\\| `(\\w+)\\(([\\w, ]*)\\)` \\| .* \\|");
+
     private final Map<String, Integer> names = new HashMap<>();
     private final Set<String> shown = new TreeSet<>();
     private SealedHouse house;
@@ -31,6 +33,7 @@ public final class ReadmeTest {
         List<String> lines = Files.readAllLines(Path.of("README.md"));
         new ReadmeTest().examples(lines);
         answers(lines);
+        calls(lines);
         tests(String.join("\n", lines));
         Check.end();
     }
@@ -50,10 +53,8 @@ public final class ReadmeTest {
         }
         Check.due("blocks of calls", blocks > 0 ? 1 : 0, 1);
         Set<String> face = new TreeSet<>();
-        for (Method m : SealedHouse.class.getDeclaredMethods()) {
-            if (Modifier.isPublic(m.getModifiers())) {
-                face.add(m.getName());
-            }
+        for (Method m : face()) {
+            face.add(m.getName());
         }
         face.removeAll(shown);
         Check.due("calls that are not shown: " + face, face.size(), 0);
@@ -114,6 +115,27 @@ public final class ReadmeTest {
             }
         }
         Check.due("constants that are told", told.size(), 4);
+    }
+
+    private static void calls(List<String> lines) {
+        Set<String> told = new TreeSet<>();
+        for (String line : lines) {
+            Matcher m = NAMED.matcher(line);
+            if (m.matches()) {
+                int parameters = m.group(2).isEmpty() ? 0 : m.group(2).split(", ").length;
+                told.add(m.group(1) + " " + parameters);
+            }
+        }
+        Set<String> face = new TreeSet<>();
+        for (Method m : face()) {
+            face.add(m.getName() + " " + m.getParameterCount());
+        }
+        Check.due("calls told " + told + ", there are " + face, told.equals(face) ? 1 : 0, 1);
+    }
+
+    private static List<Method> face() {
+        return Stream.of(SealedHouse.class.getDeclaredMethods())
+                .filter(m -> Modifier.isPublic(m.getModifiers())).toList();
     }
 
     private static void tests(String text) throws IOException {
